@@ -114,6 +114,8 @@ public final class ShireTextTest {
         faulty(HEAD + "shire", 1, at);
         faulty(HEAD + ";", 1, at);
         faulty(HEAD + "roa", 1, at);
+        faulty(HEAD + "toad 0 to 1 miles 1;", 1, at);
+        faulty(HEAD + "roadz 0 to 1 miles 1;", 1, at);
         faulty(HEAD + "gate 1", 1, at);
         faulty(HEAD + "road 3", 2, at + 5);
         faulty(HEAD + "road to", 1, at + 5);
@@ -166,7 +168,9 @@ public final class ShireTextTest {
         due.is("dragoons() without a line", x.dragoons(), 0);
         due.is("shire() of nothing", x.shire(), 0);
         due.is("there is none then", x.gates(), -2);
-        due.is("no places then", x.count(0), 0);
+        for (int what = 0; what <= 7; what++) {
+            due.is("nothing then: count(" + what + ")", x.count(what), 0);
+        }
         due.is("no roads then", x.road(0, 0), -2);
     }
 

@@ -156,6 +156,8 @@ public final class TollsTest {
 
     private static void rounds() {
         DaughtersGate x = Due.with(GUARDED);
+        x.loss(0);
+        due.is("rounds(1, 13, 0)", x.rounds(1, 13, 0), 0);
         due.is("round(0, 6)", x.round(0, 6), 24);
         due.is("rounds(0, 6, 0)", x.rounds(0, 6, 0), 1);
         due.is("rounds(0, 6, 1)", x.rounds(0, 6, 1), 2);
@@ -212,6 +214,15 @@ public final class TollsTest {
         due.is("lie() of one gate", one.lie(), 1);
         due.is("lies() of one gate", one.lies(), 0);
         due.is("sure() of one gate", one.sure(), 1);
+        // The same from the other side: safe only from 2.
+        DaughtersGate other = Due.with("shire places 3 has 5 owes 0 builds 1 walk 0;road 2 to 1 miles 5;road 1 to 0 miles 1 gate 4;"
+            + "farmer at 1 to 0 times 1 courage 0 odds 0;dragoons at 0 pace 4;");
+        due.is("rests() of the other side", other.rests(), 2);
+        due.is("lie() of the other side", other.lie(), 0);
+        // The gate is kept from its two ends alone; the other places are apart.
+        DaughtersGate alone = Due.with("shire places 4 has 5 owes 0 builds 1 walk 0;road 0 to 1 miles 5 gate 4;road 2 to 3 miles 1;"
+            + "farmer at 1 to 0 times 1 courage 0 odds 0;dragoons at 0 pace 4;");
+        due.is("rests() by the ends alone", alone.rests(), 2);
         // Two lands apart with a gate each, of one loss: from each place the other one is safe.
         DaughtersGate slow = Due.with("shire places 4 has 5 owes 0 builds 1 walk 0;road 0 to 1 miles 5 gate 3;road 2 to 3 miles 1 gate 3;"
             + "farmer at 0 to 1 times 1 courage 0 odds 0;farmer at 2 to 3 times 1 courage 0 odds 0;dragoons at 0 pace 0;");
