@@ -11,6 +11,10 @@ final class Due {
         }
     }
 
+    int asked() {
+        return asked;
+    }
+
     /** Ends the program with exit code 1 if an answer was wrong. */
     void close(String name) {
         System.out.println(name + ": " + asked + " answers, " + wrong + " of them wrong");
