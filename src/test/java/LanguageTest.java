@@ -1,15 +1,22 @@
 import com.sun.source.tree.AssertTree;
+import com.sun.source.tree.BlockTree;
 import com.sun.source.tree.CatchTree;
 import com.sun.source.tree.ClassTree;
 import com.sun.source.tree.CompilationUnitTree;
+import com.sun.source.tree.DoWhileLoopTree;
+import com.sun.source.tree.ForLoopTree;
 import com.sun.source.tree.LambdaExpressionTree;
 import com.sun.source.tree.MemberReferenceTree;
+import com.sun.source.tree.MemberSelectTree;
 import com.sun.source.tree.MethodInvocationTree;
 import com.sun.source.tree.MethodTree;
+import com.sun.source.tree.NewArrayTree;
+import com.sun.source.tree.NewClassTree;
 import com.sun.source.tree.SynchronizedTree;
 import com.sun.source.tree.ThrowTree;
 import com.sun.source.tree.TryTree;
 import com.sun.source.tree.VariableTree;
+import com.sun.source.tree.WhileLoopTree;
 import com.sun.source.util.JavacTask;
 import com.sun.source.util.TreePath;
 import com.sun.source.util.TreePathScanner;
@@ -30,6 +37,7 @@ import java.util.TreeSet;
 import java.util.regex.Matcher;
 import java.util.regex.Pattern;
 import javax.lang.model.element.Element;
+import javax.lang.model.element.ElementKind;
 import javax.tools.JavaCompiler;
 import javax.tools.ToolProvider;
 
@@ -38,6 +46,8 @@ public final class LanguageTest {
     private static final Path SOURCE = Path.of("src/main/java/DaughtersGate.java");
     private static final Path DOCUMENT = Path.of("../shared/DOC.md");
     private static final Set<String> LIBRARY = Set.of("Math.min", "Math.max", "Integer.bitCount", "Arrays.fill", "System.arraycopy");
+    private static final Set<String> TEXT = Set.of("length", "charAt");
+    private static final Set<String> CONSTANTS = Set.of("int", "long", "boolean", "char", "String", "int[]", "long[]", "char[]", "byte[]");
     private static final int MAX_LINES = 60;
     private static final int MAX_DEPTH = 8;
     private static int wrong = 0;
@@ -118,7 +128,65 @@ public final class LanguageTest {
                 }
             }
             hold(fields <= 20, "11: " + c.getSimpleName() + " has " + fields + " fields");
+            shape(c);
             return super.visitClass(c, v);
+        }
+
+        /** Classes inside are static ones with names, and no class has a block that runs of itself. */
+        private void shape(ClassTree c) {
+            boolean within = getCurrentPath().getParentPath().getLeaf() != unit;
+            hold(c.getSimpleName().length() > 0, "2: an anonymous class at line " + line(trees.getSourcePositions().getStartPosition(unit, c)));
+            hold(!within || c.getModifiers().getFlags().contains(javax.lang.model.element.Modifier.STATIC), "2: " + c.getSimpleName() + " is static");
+            hold(!within || getCurrentPath().getParentPath().getLeaf() instanceof ClassTree, "2: " + c.getSimpleName() + " is local");
+            for (var member : c.getMembers()) {
+                hold(!(member instanceof BlockTree), "5: a block that runs of itself in " + c.getSimpleName());
+            }
+        }
+
+        @Override public Void visitVariable(VariableTree x, Void v) {
+            var flags = x.getModifiers().getFlags();
+            boolean isStatic = flags.contains(javax.lang.model.element.Modifier.STATIC);
+            hold(!isStatic || flags.contains(javax.lang.model.element.Modifier.FINAL), "5: " + x.getName() + " is final");
+            hold(!isStatic || CONSTANTS.contains(x.getType().toString()), "5: " + x.getName() + " is a constant");
+            return super.visitVariable(x, v);
+        }
+
+        @Override public Void visitMemberSelect(MemberSelectTree m, Void v) {
+            Element owner = trees.getElement(new TreePath(getCurrentPath(), m.getExpression()));
+            if (owner != null && owner.asType().toString().equals("java.lang.String")) {
+                hold(TEXT.contains(m.getIdentifier().toString()), "4: " + m);
+            }
+            return super.visitMemberSelect(m, v);
+        }
+
+        /** No loop without a bound in its own lines: each has a condition that is no constant. */
+        private void bounded(Object condition) {
+            hold(condition != null && !(condition.toString().replaceAll("[()]", "").equals("true")), "9: a loop on " + condition);
+        }
+
+        @Override public Void visitForLoop(ForLoopTree t, Void v) {
+            bounded(t.getCondition());
+            return super.visitForLoop(t, v);
+        }
+
+        @Override public Void visitWhileLoop(WhileLoopTree t, Void v) {
+            bounded(t.getCondition());
+            return super.visitWhileLoop(t, v);
+        }
+
+        @Override public Void visitDoWhileLoop(DoWhileLoopTree t, Void v) {
+            bounded(t.getCondition());
+            return super.visitDoWhileLoop(t, v);
+        }
+
+        @Override public Void visitNewClass(NewClassTree n, Void v) {
+            hold(inside == null || inside.getKind() == ElementKind.CONSTRUCTOR, "room: " + n + " is made by a call");
+            return super.visitNewClass(n, v);
+        }
+
+        @Override public Void visitNewArray(NewArrayTree n, Void v) {
+            hold(inside == null || inside.getKind() == ElementKind.CONSTRUCTOR, "room: " + n + " is made by a call");
+            return super.visitNewArray(n, v);
         }
 
         @Override public Void visitMethod(MethodTree m, Void v) {
